@@ -111,6 +111,9 @@ public final class PromisesTest {
         for (int row = 1; row <= 5; row++) {
             due(3, "colour(90, " + row + ")", x.colour(90, row), 7);
         }
+        due(3, "a line of two points", x.line(5, 20, 0, 21, 1, 3), 2);
+        due(3, "colour(150, 0)", x.colour(150, 0), 3);
+        due(3, "colour(151, 0)", x.colour(151, 0), 3);
         due(3, "the longest line", x.line(4, 39, 19, 0, 0, 1), 40);
         due(3, "a line of 0 takes away", x.line(1, 20, 0, 20, 19, 0), 20);
         due(3, "colour(30, 7)", x.colour(30, 7), 0);
@@ -287,10 +290,13 @@ public final class PromisesTest {
         due(10, "no work is left over", x.square(40, 3), 0);
         due(10, "done on day 1", x.square(40, 4), 1);
         due(10, "count(0)", x.count(0), 2);
+        // The last day lies behind call 512, where answers are free; the rule is kept all the same.
         PanoramaHouse y = new PanoramaHouse();
-        for (int i = 1; i <= 500; i++) {
+        for (int i = 1; i <= 1000; i++) {
             due(10, "day " + i, y.day(), i);
         }
+        due(10, "behind the last day", y.day(), -1);
+        due(10, "doing nothing", y.count(0), 1000);
     }
 
     private static void square() {
@@ -448,6 +454,12 @@ public final class PromisesTest {
         faultAt("  ;", 2);
         faultAt("week 3;", 0);
         faultAt("weekss 3;", 0);
+        faultAt("weeksa 3;", 0);
+        faultAt("weeksz 3;", 0);
+        faultAt("weeks{3;", 5);
+        faultAt("weeks`3;", 5);
+        faultAt("weeks/3;", 5);
+        faultAt("weeks:3;", 5);
         faultAt("wee", 0);
         faultAt("Weeks 3;", 0);
         faultAt("weeks\t3;", 5);

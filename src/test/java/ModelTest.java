@@ -11,9 +11,12 @@ import java.util.regex.Pattern;
 public final class ModelTest {
     private static final int RUNS = 400;
     private static final int CALLS = 512;
+    /** A contract of 600 bytes: 30 times feed(), hall() and fault(). */
+    private static final int MOST_CALLS_A_TURN = 32;
     private static final int MOST_TOLD = 20;
 
     private static int wrong = 0;
+    private static int calls = 0;
     private static long seed = 20_261_116L;
 
     private static int below(int n) {
@@ -34,6 +37,7 @@ public final class ModelTest {
     }
 
     private static void due(int run, String call, int got, int want) {
+        calls++;
         if (got != want) {
             wrong++;
             if (wrong <= MOST_TOLD) {
@@ -57,7 +61,8 @@ public final class ModelTest {
         Model m = new Model();
         // A run leans to one part of the house, so that each part is gone into deeply.
         int lean = run % 5;
-        for (int call = 0; call < CALLS; call++) {
+        calls = 0;
+        while (calls + MOST_CALLS_A_TURN <= CALLS) {
             int part = below(4) == 0 ? below(4) : Math.min(lean, 3);
             if (lean == 4) {
                 part = below(4);
